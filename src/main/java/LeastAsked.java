@@ -596,7 +596,7 @@ public final class LeastAsked {
             return NONE;
         }
 
-        /** How often q is ASKED till it is p's turn: q goes ahead while he was ASKED less, or as often and is the lesser. */
+        /** How often q is ASKED till p's turn: while he was ASKED less, or as often and is the lesser. */
         int timesAhead(int q, int p) {
             int till = people[p].asked + (q < p ? 1 : 0);
             return Math.max(0, till - people[q].asked);
@@ -749,23 +749,24 @@ public final class LeastAsked {
         }
 
         boolean isDone(int whom, int deed, Province then) {
-            int p = then.first();
             if (deed == ASKS) {
-                ask(p, whom, then);
+                ask(whom, then);
                 return true;
+            }
+            int p = deed == FEIGNS ? whom : deed - LEARNS;
+            if (!then.hasPerson(p) || deed == FEIGNS && then.first() != p) {
+                return false;
             }
             if (deed == FEIGNS) {
                 then.people[p].asked++;
-                return p == whom;
+            } else {
+                then.people[p].knows = whom;
             }
-            if (!then.hasPerson(deed - LEARNS)) {
-                return false;
-            }
-            then.people[deed - LEARNS].knows = whom;
             return true;
         }
 
-        void ask(int p, int m, Province then) {
+        void ask(int m, Province then) {
+            int p = then.first();
             then.people[p].asked++;
             brought += then.bringing(p, m);
             askedSet |= 1 << p;

@@ -9,6 +9,7 @@ public final class TurnsTest {
     refusalsOfPlans();
     best();
     bestOfTwo();
+    fewerThanBefore();
     Check.end();
   }
 
@@ -68,6 +69,7 @@ public final class TurnsTest {
     x.question(0);
     Check.due("15 even again", x.even(), 4);
     Check.due("15 no province", new LeastAsked().even(), LeastAsked.STATE);
+    Check.due("15 never asked", Check.of("p000;g000;g000").even(), 0);
     Check.due("15 far", Check.of("p000;g000;g000;g000;g900;g000;g000").even(), 45);
   }
 
@@ -97,6 +99,7 @@ public final class TurnsTest {
     Check.due("16 nothing is changed", x.ofPerson(0, 1), 0);
     x.feint(0);
     Check.due("16 from now on", x.plan(1, 2, 1, 2, -1), 14 + 54);
+    planned(Check.of("p000;g000;h000;g079"), new int[] {0, 1, 2, 2}, 0, 0, 1, 2, 3);
     LeastAsked dear = Check.of("p023;g013;g029");
     planned(dear, new int[] {1, 0}, 18, 1, 0);
   }
@@ -147,6 +150,7 @@ public final class TurnsTest {
     given("p111;g900;g101;g001;g971;g001;g001", 3, 1, 2, 3);
     given("p999;g004;g013;g022;g041", 27 + 18 + 9, 1, 2, 3);
     given("p999;g055;g011;g021", 45 + 9 + 9, 1, 2, 0);
+    given("p191;g025;g001;g001", 47, 1, 0, 2);
     LeastAsked none = new LeastAsked();
     Check.due("17 no province", none.best(0), LeastAsked.STATE);
     Check.due("17 outside", none.best(3), LeastAsked.OUTSIDE);
@@ -157,5 +161,17 @@ public final class TurnsTest {
     given("p119;g041;g001", 9 + 1, 1, -9, 0);
     given("p159;g041;g021", 9 + 5, -9, 1, 0);
     given("p000;g073;g073", 0, 0, 1, -9);
+  }
+
+  /** Nothing of PEOPLE who were there ahead of a new TEXT is left. */
+  private static void fewerThanBefore() {
+    LeastAsked x = Check.of("p222;g900;g909;g979;g979;g979;g979");
+    Check.due("2 fewer", Check.taken(x, "p222;g000;g201"), 2);
+    Check.due("12 nobody is there", x.register(2), LeastAsked.NONE);
+    Check.due("13 of two", x.turn(1), 3);
+    Check.due("14 nobody knows", x.steer(0), LeastAsked.NONE);
+    Check.due("15 of two", x.even(), 2);
+    Check.due("17 of two", x.best(-1), 1);
+    Check.due("17 of two", x.best(2), LeastAsked.NONE);
   }
 }
