@@ -3,9 +3,9 @@ import java.util.List;
 
 /**
  * The document once more, as plainly as can be and by other ways than the class (turns are played out, plans are
- * tried one by one), for ModelTest to compare with.
+ * tried one by one), for ModelTest and SweepTest to compare with.
  */
-final class Model {
+final class Model implements Asker {
   static final class Refused extends Exception {
     private static final long serialVersionUID = 1;
     final int answer;
@@ -36,8 +36,9 @@ final class Model {
     if (when) throw new Refused(-10 - which, which);
   }
 
-  long call(String name, int... a) {
-    boolean names = List.of("province", "year", "plan", "sheet", "put", "cell", "copy", "as").contains(name);
+  @Override
+  public long call(String name, int... a) {
+    boolean names = Edge.namesFaults(name);
     boolean isLong = name.equals("cell") || name.equals("odds");
     try {
       long answer = answer(name, a);

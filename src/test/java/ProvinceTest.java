@@ -53,16 +53,16 @@ public final class ProvinceTest {
   }
 
   private static void faultsOfTexts() {
-    LeastAsked x = Check.of(Check.FIVE);
     String six = Check.FIVE + ";h555";
     for (int n = 0; n < six.length(); n++) {
       boolean whole = n >= 14 && (n - 4) % 5 == 0;
-      if (!whole) Check.due("2 just ends at " + n, Check.taken(x, six.substring(0, n)), -100 - n);
+      if (!whole) Check.due("2 just ends at " + n, Check.taken(new LeastAsked(), six.substring(0, n)), -100 - n);
     }
     for (int at = 0; at < six.length(); at++) {
       String broken = six.substring(0, at) + "/" + six.substring(at + 1);
-      Check.due("2 broken at " + at, Check.taken(x, broken), -100 - at);
+      Check.due("2 broken at " + at, Check.taken(new LeastAsked(), broken), -100 - at);
     }
+    LeastAsked x = Check.of(Check.FIVE);
     Check.due("2 a seventh", Check.taken(x, six + ";g000"), -134);
     Check.due("2 behind six", Check.taken(x, six + "x"), -134);
     Check.due("2 knows 8", Check.taken(x, "p123;g080;g000"), -107);

@@ -127,9 +127,9 @@ public final class QuestionsTest {
   }
 
   private static void refusalsOfPairs() {
-    LeastAsked x = Check.of(Check.FIVE);
     int[][] pairs = {{0, -1}, {0, 2}, {0, 9}, {0, 16}, {8, 10}, {-1, 15}, {3, 0}, {-1, 0}, {5, 1}, {-1, 1}};
     for (int k = 0; k < pairs.length; k++) {
+      LeastAsked x = Check.of(Check.FIVE);
       int due = k < 6 ? LeastAsked.OUTSIDE : LeastAsked.UNKNOWN;
       String name = "11 pair " + pairs[k][0] + ", " + pairs[k][1];
       for (int what : new int[] {0, 1, 15}) {
@@ -142,6 +142,8 @@ public final class QuestionsTest {
         Check.due(name + " that is not told", x.year(1, 2, 0, 1, 1), 0);
       }
     }
+    LeastAsked x = Check.of(Check.FIVE);
+    Check.row(x, 1, Check.INTS, 1, 1, -1, 1);
     x.year(1, 2, 0, 7, 0);
     Check.due("11 fault", x.fault(), 3);
     x.year(1, 2, 0, 2, 0);
