@@ -16,8 +16,6 @@ import java.util.regex.Matcher;
 import java.util.regex.Pattern;
 import java.util.stream.Collectors;
 import java.util.stream.Stream;
-import javax.tools.JavaCompiler;
-import javax.tools.ToolProvider;
 
 /** README.md: what its examples answer, that it names every call and test there is, and the command it names. */
 public final class ReadmeTest {
@@ -83,9 +81,8 @@ public final class ReadmeTest {
       Path source = made.resolve("ReadmeUse.java");
       Files.writeString(source, "import java.util.*;\npublic final class ReadmeUse {\npublic static List<Object> run() {\n"
           + "List<Object> notes = new ArrayList<>();\n" + body + "return notes;\n}\n}\n");
-      JavaCompiler javac = ToolProvider.getSystemJavaCompiler();
-      int exit = javac == null ? -1 : javac.run(null, null, null, "--release", "17",
-          "-cp", System.getProperty("java.class.path"), "-d", made.toString(), source.toString());
+      int exit = new ProcessBuilder("javac", "--release", "17", "-cp", System.getProperty("java.class.path"),
+          "-d", made.toString(), source.toString()).inheritIO().start().waitFor();
       Check.due("README's examples compile", exit, 0);
       if (exit != 0) return new ArrayList<>();
       try (URLClassLoader loader = new URLClassLoader(new URL[] {made.toUri().toURL()})) {
